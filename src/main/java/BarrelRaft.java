@@ -314,7 +314,9 @@ public final class BarrelRaft {
         }
         int most = savedWith(NONE, hours);
         int best = NONE;
-        for (int i = 0; i < raft.lashings.number; i++) {
+        // When all who are not lost are saved, no lashing can save more, and the tries are dear.
+        int possible = raft.castaways.number - raft.castaways.countOf(LOST);
+        for (int i = 0; i < raft.lashings.number && most < possible; i++) {
             int saved = savedWith(i, hours);
             if (saved > most) {
                 most = saved;
@@ -369,7 +371,7 @@ public final class BarrelRaft {
     }
 
     private static boolean isSea(int x, int y) {
-        return isBelow(x, SEA_COLUMNS) && isBelow(y, SEA_ROWS);
+        return x >= 0 && x < SEA_COLUMNS && y >= 0 && y < SEA_ROWS;
     }
 
     private static boolean isFlow(int d) {
@@ -927,11 +929,11 @@ public final class BarrelRaft {
         void wearLashings(Waters waters) {
             int before = lashings.number;
             for (int i = 0; i < before; i++) {
-                int stress = stress(i, waters);
-                if (stress > lashings.left(i)) {
+                int strain = stress(i, waters);
+                if (strain > lashings.left(i)) {
                     lashings.undo(i);
                 } else {
-                    lashings.wear[i] += stress / WEAR_PART;
+                    lashings.wear[i] += strain / WEAR_PART;
                 }
             }
             lashings.sweep();

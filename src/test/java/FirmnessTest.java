@@ -57,7 +57,7 @@ public final class FirmnessTest {
         Due.is("17: a ring", x.firm(1, 4), 2);
         x.cut(0, 3);
         Due.is("17: a chain", x.firm(1, 4), 1);
-        four();
+        crosswise();
         Due.refusesIndex("17: a -1", FirmnessTest::nine, y -> y.firm(-1, 0));
         Due.refusesIndex("17: a 9", FirmnessTest::nine, y -> y.firm(9, 0));
         Due.refusesIndex("17: b -1", FirmnessTest::nine, y -> y.firm(0, -1));
@@ -65,27 +65,37 @@ public final class FirmnessTest {
         Due.refusesIndex("17: both 9", FirmnessTest::nine, y -> y.firm(9, 9));
     }
 
-    /** Ways that take the short cut first must give it back: 1-2-4-5 by 2 to 4 shuts both others. */
-    private static void four() {
+    /**
+     * The first way that is found from 5 to 1 goes 5, 0, 3, 1, and must give back 0, 3 for two ways.
+     * <pre>
+     * 4 - 0 - 5
+     * |   |   |
+     * 1 - 3 - 2
+     * |       |
+     * 6       7
+     * </pre>
+     */
+    private static void crosswise() {
         BarrelRaft x = new BarrelRaft();
-        int[] places = {1, 2, 3, 9, 10, 11, 8, 12};
+        int[] places = {1, 8, 10, 9, 0, 2, 16, 18};
         for (int place : places) {
             x.addBarrel(place % 8, place / 8, 20, 0);
         }
-        x.tie(0, 1, 5);
-        x.tie(1, 2, 5);
-        x.tie(3, 4, 5);
-        x.tie(4, 5, 5);
-        x.tie(1, 4, 5);
         x.tie(0, 3, 5);
+        x.tie(0, 4, 5);
+        x.tie(0, 5, 5);
+        x.tie(1, 3, 5);
+        x.tie(1, 4, 5);
+        x.tie(2, 3, 5);
         x.tie(2, 5, 5);
-        Due.is("17: firm(0, 5)", x.firm(0, 5), 2);
-        Due.is("17: firm(3, 2)", x.firm(3, 2), 2);
-        x.tie(3, 6, 5);
-        x.tie(5, 7, 5);
+        Due.is("17: firm(5, 1)", x.firm(5, 1), 2);
+        Due.is("17: firm(1, 5)", x.firm(1, 5), 2);
+        Due.is("17: firm(4, 2)", x.firm(4, 2), 2);
+        Due.is("17: firm(0, 3)", x.firm(0, 3), 3);
+        x.tie(1, 6, 5);
+        x.tie(7, 2, 5);
         Due.is("17: firm(6, 7)", x.firm(6, 7), 1);
-        Due.is("17: firm(3, 5)", x.firm(3, 5), 2);
-        Due.is("17: firm(4, 1)", x.firm(4, 1), 3);
+        Due.is("17: firm(1, 2)", x.firm(1, 2), 2);
     }
 
     private static void hold() {

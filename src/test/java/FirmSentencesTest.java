@@ -25,7 +25,8 @@ public final class FirmSentencesTest {
     public static void main(String[] args) {
         firm();
         hold();
-        refused();
+        refused(17, "firm");
+        refused(18, "hold");
         piece();
         pieceRefused();
         Sentences.end("FirmSentencesTest");
@@ -202,36 +203,22 @@ public final class FirmSentencesTest {
         });
     }
 
-    private static void refused() {
-        Sentences.of("17: IndexOutOfBoundsException if there is no barrel a", () -> {
-            Play.answers(LADDER, 0, "firm(8, 0)");
-            Play.refuses(LADDER, Play.INDEX, Play.outside("firm(#, 0)", 0, 8));
-            Play.refuses(Scenes.FULL, Play.INDEX, "firm(24, 0)");
-            Play.answers(Scenes.FULL, 0, "firm(23, 0)");
+    /** Both calls are refused in the same way. */
+    private static void refused(int promise, String call) {
+        Sentences.of(promise + ": IndexOutOfBoundsException if there is no barrel a", () -> {
+            Play.answers(LADDER, 0, call + "(8, 0)");
+            Play.refuses(LADDER, Play.INDEX, Play.outside(call + "(#, 0)", 0, 8));
+            Play.refuses(Scenes.FULL, Play.INDEX, call + "(24, 0)");
+            Play.answers(Scenes.FULL, 0, call + "(23, 0)");
         });
-        Sentences.of("17: IndexOutOfBoundsException if there is no barrel b", () -> {
-            Play.answers(LADDER, 0, "firm(0, 8)");
-            Play.refuses(LADDER, Play.INDEX, Play.outside("firm(0, #)", 0, 8));
-            Play.refuses(Scenes.NEW, Play.INDEX, "firm(0, 1)");
+        Sentences.of(promise + ": IndexOutOfBoundsException if there is no barrel b", () -> {
+            Play.answers(LADDER, 0, call + "(0, 8)");
+            Play.refuses(LADDER, Play.INDEX, Play.outside(call + "(0, #)", 0, 8));
+            Play.refuses(Scenes.NEW, Play.INDEX, call + "(0, 1)");
         });
-        Sentences.of("17: no such barrel, also if both are the same", () -> {
-            Play.refuses(LADDER, Play.INDEX, Play.outside("firm(#, #)", 0, 8));
-            Play.refuses(Scenes.NEW, Play.INDEX, "firm(0, 0)");
-        });
-        Sentences.of("18: IndexOutOfBoundsException if there is no barrel a", () -> {
-            Play.answers(LADDER, 0, "hold(8, 0)");
-            Play.refuses(LADDER, Play.INDEX, Play.outside("hold(#, 0)", 0, 8));
-            Play.refuses(Scenes.FULL, Play.INDEX, "hold(24, 0)");
-            Play.answers(Scenes.FULL, 0, "hold(23, 0)");
-        });
-        Sentences.of("18: IndexOutOfBoundsException if there is no barrel b", () -> {
-            Play.answers(LADDER, 0, "hold(0, 8)");
-            Play.refuses(LADDER, Play.INDEX, Play.outside("hold(0, #)", 0, 8));
-            Play.refuses(Scenes.NEW, Play.INDEX, "hold(0, 1)");
-        });
-        Sentences.of("18: no such barrel, also if both are the same", () -> {
-            Play.refuses(LADDER, Play.INDEX, Play.outside("hold(#, #)", 0, 8));
-            Play.refuses(Scenes.NEW, Play.INDEX, "hold(0, 0)");
+        Sentences.of(promise + ": no such barrel, also if both are the same", () -> {
+            Play.refuses(LADDER, Play.INDEX, Play.outside(call + "(#, #)", 0, 8));
+            Play.refuses(Scenes.NEW, Play.INDEX, call + "(0, 0)");
         });
     }
 

@@ -76,12 +76,20 @@ final class Play {
         changesNothing(scene, calls);
     }
 
+    /** Each call by itself leaves an object in this scene as it was. */
     static void changesNothing(String[] scene, String... calls) {
-        String due = portrait(scene, null);
+        String due = portrait(scene);
         for (String call : calls) {
             if (!portrait(scene, call).equals(due)) {
                 Sentences.fails(call + " changed something");
             }
+        }
+    }
+
+    /** All calls together, asked one after the other, leave an object in this scene as it was. */
+    static void changesNothingTogether(String[] scene, String... calls) {
+        if (!portrait(scene, calls).equals(portrait(scene))) {
+            Sentences.fails("these calls together changed something");
         }
     }
 
@@ -169,13 +177,13 @@ final class Play {
     }
 
     /**
-     * All that is seen of a scene, after this call if there is one. All of the sea takes more calls than
-     * one object is good for, so it is looked at a few rows at a time.
+     * All that is seen of a scene after these calls. All of the sea takes more calls than one object is good
+     * for, so it is looked at a few rows at a time.
      */
-    private static String portrait(String[] scene, String call) {
+    private static String portrait(String[] scene, String... calls) {
         StringBuilder text = new StringBuilder();
         for (int first = 0; first < 20; first += 4) {
-            Play part = after(scene, call);
+            Play part = after(scene, calls);
             part.spend(360);
             for (int place = 30 * first; place < 30 * (first + 4); place++) {
                 for (int what = 0; what < 3; what++) {
@@ -184,13 +192,13 @@ final class Play {
             }
         }
         for (int first = 0; first < 600; first += 300) {
-            Play part = after(scene, call);
+            Play part = after(scene, calls);
             part.spend(300);
             for (int place = first; place < first + 300; place++) {
                 text.append(part.x.sea(place % 30, place / 30, 3)).append(',');
             }
         }
-        Play rest = after(scene, call);
+        Play rest = after(scene, calls);
         text.append(rest.ask("digest()")).append(" wind ").append(rest.ask("setWind(1, 2)"));
         text.append(" next ").append(rest.ask("addWater(0, 0, 1, 1, 0, 0, 0)"));
         for (int hours = 1; hours <= 16; hours *= 4) {
@@ -199,9 +207,9 @@ final class Play {
         return text.toString();
     }
 
-    private static Play after(String[] scene, String call) {
+    private static Play after(String[] scene, String... calls) {
         Play play = new Play(scene);
-        if (call != null) {
+        for (String call : calls) {
             play.ask(call);
         }
         return play;

@@ -191,6 +191,12 @@ public final class FirmSentencesTest {
             both(two, "hold", 0, 1, 0);
             both(Play.and(RING, "cut(0, 1)", "cut(2, 3)"), "hold", 0, 1, 0);
         });
+        Sentences.of("18: 0 if there is no way, as the only lashing was cut or broke", () -> {
+            String[] tied = Play.and(two, "tie(0, 1, 9)", "addWater(0, 0, 30, 20, 0, 0, 10)");
+            both(tied, "hold", 0, 1, 9);
+            both(Play.and(tied, "cut(0, 1)"), "hold", 0, 1, 0);
+            both(Play.and(tied, "pass(1)"), "hold", 0, 1, 0);
+        });
         Sentences.of("18: 0 if there is no way, as one does not float", () -> {
             both(FATES, "hold", 1, 2, 0);
             both(FATES, "hold", 1, 3, 0);

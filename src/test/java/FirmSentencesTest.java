@@ -197,6 +197,12 @@ public final class FirmSentencesTest {
             both(Play.and(tied, "cut(0, 1)"), "hold", 0, 1, 0);
             both(Play.and(tied, "pass(1)"), "hold", 0, 1, 0);
         });
+        Sentences.of("18: as strong as it is now, made anew or worn, after others were cut", () -> {
+            String[] last = Play.and(RING, "tie(2, 3, 40)", "cut(0, 1)", "cut(0, 3)", "cut(1, 2)");
+            both(last, "hold", 2, 3, 40);
+            both(Play.and(last, "tie(2, 3, 3)"), "hold", 2, 3, 3);
+            both(Play.and(last, "addWater(0, 0, 30, 20, 0, 0, 20)", "pass(2)"), "hold", 2, 3, 30);
+        });
         Sentences.of("18: 0 if there is no way, as one does not float", () -> {
             both(FATES, "hold", 1, 2, 0);
             both(FATES, "hold", 1, 3, 0);

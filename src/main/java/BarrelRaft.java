@@ -749,7 +749,7 @@ public final class BarrelRaft {
         void shareFate(Barrels barrels) {
             for (int i = 0; i < number; i++) {
                 int barrel = seat[i];
-                if (barrels.has(barrel) && !barrels.floats(barrel)) {
+                if (barrels.has(barrel) && barrels.state[barrel] != FLOATS) {
                     state[i] = barrels.state[barrel];
                     seat[i] = NONE;
                 }

@@ -1,9 +1,16 @@
+import java.io.IOException;
 import java.lang.reflect.Constructor;
 import java.lang.reflect.Field;
 import java.lang.reflect.Method;
 import java.lang.reflect.Modifier;
+import java.nio.file.Files;
+import java.nio.file.Path;
+import java.util.ArrayList;
 import java.util.Arrays;
+import java.util.List;
 import java.util.TreeSet;
+import java.util.regex.Matcher;
+import java.util.regex.Pattern;
 
 /** The public face is that of the document, and nothing else of the class can be reached. */
 public final class FaceTest {
@@ -36,7 +43,16 @@ public final class FaceTest {
         "long digest 0",
     };
 
-    public static void main(String[] args) {
+    /** The face as it is written: what the interface says ahead of its calls, and the calls. */
+    private static final String[] WRITTEN = {
+        "---- the sea", "addWater", "sea", "setWind",
+        "---- barrels and lashings", "addBarrel", "tie", "cut", "load", "barrel", "lashing",
+        "---- castaways", "addCastaway", "go", "bail", "castaway",
+        "---- hours", "pass", "count",
+        "---- how firmly, and what will be", "firm", "hold", "piece", "foresee", "advise", "spare", "digest",
+    };
+
+    public static void main(String[] args) throws IOException {
         TreeSet<String> due = new TreeSet<>(Arrays.asList(FACE));
         TreeSet<String> found = new TreeSet<>();
         for (Method method : BarrelRaft.class.getDeclaredMethods()) {
@@ -54,11 +70,30 @@ public final class FaceTest {
                 && Modifier.isPublic(made[0].getModifiers());
         int modifiers = BarrelRaft.class.getModifiers();
         boolean fine = Modifier.isPublic(modifiers) && Modifier.isFinal(modifiers);
+        List<String> written = written(Path.of("src/main/java/BarrelRaft.java"));
         System.out.println("FaceTest: " + found.size() + " members");
         if (!one || !fine || !found.equals(due)) {
             System.out.println("found " + found + "\ndue is " + due);
             System.exit(1);
         }
+        if (!written.equals(Arrays.asList(WRITTEN))) {
+            System.out.println("written " + written + "\ndue is " + Arrays.asList(WRITTEN));
+            System.exit(1);
+        }
+    }
+
+    private static List<String> written(Path source) throws IOException {
+        List<String> written = new ArrayList<>();
+        Pattern pattern = Pattern.compile("^    (?:// (---- .*)|public (?:int|long|double) (\\w+)\\(.*)$");
+        for (String line : Files.readAllLines(source)) {
+            Matcher matcher = pattern.matcher(line);
+            if (matcher.matches()) {
+                written.add(matcher.group(1) != null ? matcher.group(1) : matcher.group(2));
+            }
+        }
+        // The last one is the program's own, behind the face.
+        written.remove("---- what the calls above share");
+        return written;
     }
 
     private static String told(Method method) {
